@@ -500,10 +500,6 @@ public final class GateTable {
             this.letters = letters;
         }
 
-        int length() {
-            return letters.length;
-        }
-
         /** The letter at a place; behind the end a bracket that closes all. */
         char letter(int k) {
             return k < 0 || k >= letters.length ? ')' : letters[k];

@@ -17,7 +17,7 @@ public final class PromiseTests {
         rules();
         turns();
         ringsAndVictims();
-        gone();
+        turnsByDraw();
         laid();
         gatesTold();
         tasksTold();
@@ -171,11 +171,6 @@ public final class PromiseTests {
         due("program of blanks", tell(x, 3, "   "), 0);
         due("no steps then", x.alone(3, 0), 0);
 
-        GateTable y = ring(4);
-        y.turn(1);
-        due("fallen ahead", y.task(1, 5), 1);
-        y.undo();
-        y.undo();
         GateTable z = with("a(b())", "b(a())");
         z.rule(4);
         z.turn(0);
@@ -493,6 +488,16 @@ public final class PromiseTests {
         y.rule(2);
         due("of like ones the least", y.turn(1), 10);
 
+        GateTable w = with("a(b())", "b(c())", "c(d())", "d(a())");
+        for (int k = 0; k < 7; k++) {
+            due("no ring yet", w.turn(k % 4), k < 4 ? 0 : 1);
+        }
+        due("four in a ring", w.turn(3), 4);
+        due("all of them", w.count(5), 15);
+        w.rule(2);
+        due("the least of four", w.turn(3), 10);
+        due("none in a ring", w.count(5), 0);
+
         GateTable z = with("a(a(b()))", "c(b(a()))");
         z.rule(3);
         z.turn(0);
@@ -505,7 +510,7 @@ public final class PromiseTests {
     }
 
     // 10
-    private static void gone() {
+    private static void turnsByDraw() {
         GateTable x = with("a(a+1)", "b(b+1)", "c(c+1)", "d(d+1)");
         due("go 0", x.go(0), BAD);
         due("go -1", x.go(-1), BAD);
@@ -878,6 +883,27 @@ public final class PromiseTests {
         }
         due("what older ones were is kept", x.restore() + x.undo() + x.undo(), 1 + 4 + 3);
         due("rule undone", x.count(0), 0);
+
+        GateTable y = new GateTable();
+        y.seed(5);
+        y.rule(1);
+        y.rule(2);
+        y.image();
+        for (int k = 0; k < 8; k++) {
+            y.seed(7);
+            y.rule(3 + k % 2);
+        }
+        y.restore();
+        due("the oldest, too", y.undo() + y.undo(), 1);
+        due("as ahead of it", y.count(0), 0);
+        due("its draw", y.seed(9), 5);
+        due("no older one", y.undo(), NONE);
+        y.rule(4);
+        y.image();
+        y.undo();
+        y.restore();
+        due("the only one", y.undo(), 0);
+        due("as ahead of that", y.seed(9), 9);
     }
 
     private static void row(GateTable x, int sheet, int lane, int... values) {
