@@ -429,15 +429,25 @@ public final class GateTable {
         }
 
         Script toScript() {
-            char[] dense = new char[size];
+            char[] dense = new char[size - blanks()];
             int kept = 0;
-            for (int k = 0; k < size; k++) {
+            for (int k = 0; k < size && kept < dense.length; k++) {
                 if (letters[k] != ' ') {
                     dense[kept] = letters[k];
                     kept++;
                 }
             }
-            return new Script(Arrays.copyOf(dense, kept));
+            return new Script(dense);
+        }
+
+        private int blanks() {
+            int count = 0;
+            for (int k = 0; k < size; k++) {
+                if (letters[k] == ' ') {
+                    count++;
+                }
+            }
+            return count;
         }
 
         private boolean accepts(char letter) {

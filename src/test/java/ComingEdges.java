@@ -3,7 +3,8 @@ public final class ComingEdges extends Edges {
     private static final String[][] PAIRS = {
         {"a(b())", "b(a())"}, {"c()d()a(b())", "b(a())"}, {"a(b(c()))", "c(b(a()))"}, {"a(b())c(d())", "d(c())b(a())"},
         {"a(a(b()))", "b(a(b()))"}, {"[a(b(!))]c()", "b(a(!))"}, {"a(a+1b(b+1!))", "b(2{b+1}a())"},
-        {"a(b())b(a())", "a(b())b(a())"}, {"a()b(c())", "c()a(b())"}, {"a(b()c())", "c(a())b(a())"}};
+        {"a(b())b(a())", "a(b())b(a())"}, {"a()b(c())", "c()a(b())"}, {"a(b()c())", "c(a())b(a())"},
+        {"a(b()b())", "b(a())"}, {"a(b())", "b(a()a())"}, {"a(2{b()})", "b(2{a()})"}};
     private static final String[] FREE_BOTH = {"2{5{c()}}3{c()}a(b())", "2{5{d()}}3{d()}b(a())"};
 
     public static void main(String[] args) {

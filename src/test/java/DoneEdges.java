@@ -10,6 +10,7 @@ public final class DoneEdges extends Edges {
         driftUndone();
         undoneNone();
         undoneKinds();
+        undonePrograms();
         undoneKnown();
         undoneWhateverWasToldSince();
         notToBeUndone();
@@ -218,6 +219,16 @@ public final class DoneEdges extends Edges {
         return x;
     }
 
+    /** Tasks 0 and 1 wait; a turn of task 2 closes the ring. */
+    private static GateTable nearRing(int rule) {
+        GateTable x = ringing();
+        if (rule != 0) {
+            x.rule(rule);
+        }
+        turns(x, 0, 1, 2, 0, 1);
+        return x;
+    }
+
     private static void undoneKinds() {
         promise(21, "the latest of a PROGRAM, a GATE, RULE told, a TASK run, a TURN, TURNS gone, THE TABLE laid anew");
         undone("a PROGRAM", quiet(), x -> tell(x, 0, "f(f-9)"));
@@ -231,17 +242,35 @@ public final class DoneEdges extends Edges {
         undone("a TURN that ends", quiet(), x -> x.turn(3));
         undone("TURNS gone", quiet(), x -> x.go(40));
         undone("THE TABLE laid anew", quiet(), GateTable::lay);
-        GateTable ring = ringing();
-        turns(ring, 0, 1, 2, 0, 1);
-        undone("a TURN to a ring", ring, x -> x.turn(2));
-        ring.rule(4);
-        undone("a TURN with a victim", ring, x -> x.turn(2));
-        undone("THE TABLE laid anew while all wait", ring, GateTable::lay);
-        undone("a turn of a DRIFT", ring, x -> x.drift(1));
+        undone("a TURN to a ring", nearRing(0), x -> x.turn(2));
+        undone("a TURN with a victim", nearRing(4), x -> x.turn(2));
+        undone("a TURN with another victim", nearRing(3), x -> x.turn(2));
+        undone("THE TABLE laid anew while two wait", nearRing(4), GateTable::lay);
+        undone("a turn of a DRIFT", nearRing(4), x -> x.drift(1));
         promise(21, "a TASK run, of no steps, too");
         GateTable none = new GateTable();
         none.run(0);
         due("known", none.count(8), 1);
+    }
+
+    private static void undonePrograms() {
+        promise(21, "a PROGRAM is as it had not been, also where a GATE comes or goes then");
+        GateTable x = with("a(b())", "b(b+1)");
+        tell(x, 0, "c(c+1)d()");
+        x.undo();
+        x.gone(1);
+        same("the trace of task 0", trace(x, 0), "a(a)");
+        x.gone(1);
+        same("the trace of task 0", trace(x, 0), "a(b(b)a)");
+        same("the trace of task 1", trace(x, 1), "b(b+1b)");
+        promise(24, "All is as it was then, also where a GATE comes or goes then");
+        x.image();
+        tell(x, 0, "c(c+1)d()");
+        tell(x, 1, "");
+        x.restore();
+        x.gone(2);
+        same("the trace of task 0", trace(x, 0), "a(b(b)a)");
+        same("the trace of task 1", trace(x, 1), "b(b+1b)");
     }
 
     private static void undoneKnown() {

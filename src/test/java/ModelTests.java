@@ -103,7 +103,9 @@ public final class ModelTests {
                 char letter = text.charAt(k);
                 hold("type(" + (int) letter + ")", table.type(letter), model.type(letter));
             }
-            hold("program(" + task + ")", table.program(task), model.program(task));
+            if (calls < CALLS) {
+                hold("program(" + task + ")", table.program(task), model.program(task));
+            }
         }
 
         private void someCall() {

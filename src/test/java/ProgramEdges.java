@@ -9,6 +9,7 @@ public final class ProgramEdges extends Edges {
         programMakesIdle();
         tapeBehindProgram();
         lettersByPlace();
+        programsBehindFaults();
         faultsAmongBlanks();
         openBrackets();
         stepsAtMost();
@@ -247,6 +248,23 @@ public final class ProgramEdges extends Edges {
         due("the end where more is due", tell(new GateTable(), 0, "[2{a("), -25);
     }
 
+    private static void programsBehindFaults() {
+        promise(3, "a FAULT; what is refused changes nothing");
+        GateTable x = new GateTable();
+        due("a fault with a bracket open", tell(x, 0, "a([2{"), -25);
+        due("a program then, which closes none of that", tell(x, 0, "a()"), 2);
+        due("a fault with six brackets open", tell(x, 0, "[[[[[["), -26);
+        due("six open then", tell(x, 0, "[[[[[[]]]]]]"), 0);
+        due("a fault behind a sign", tell(x, 0, "a(a+"), -24);
+        due("a figure at first then", tell(x, 0, "1"), -20);
+        due("a fault behind a letter", tell(x, 0, "a"), -21);
+        due("a bracket at first then", tell(x, 0, "("), -20);
+        due("a fault behind a figure", tell(x, 0, "2"), -21);
+        due("a bracket at first then", tell(x, 0, "{"), -20);
+        due("the program that was told last", x.alone(0, 0), 0);
+        due("what may be undone: two programs", x.count(8), 2);
+    }
+
     private static void faultsAmongBlanks() {
         promise(3, "behind blanks, which count for nothing (the end: how many letters there are)");
         due("a letter behind blanks", tell(new GateTable(), 0, "  )"), -22);
@@ -300,6 +318,10 @@ public final class ProgramEdges extends Edges {
         due("31 with an add behind the try", tell(new GateTable(), 0, "a([2{5{a+1}}4{a+1}!]a+1)"), FULL);
         due("31 in a try: no try mends that", tell(new GateTable(), 0, "[5{3{a()}}b()]"), FULL);
         due("3125 stays", tell(new GateTable(), 0, "5{5{5{5{5{a()}}}}}"), FULL);
+        due("3125 adds", tell(new GateTable(), 0, "a(5{5{5{5{5{a+1}}}}})"), FULL);
+        due("625 adds in a try", tell(new GateTable(), 0, "a([5{5{5{5{a+1}}}}!])"), FULL);
+        due("625 adds, each taken back", tell(new GateTable(), 0, "a(5{5{5{5{[a+1!]}}}})"), FULL);
+        due("625 stays mended", tell(new GateTable(), 0, "5{5{5{5{[a(!)]}}}}"), FULL);
         GateTable x = with("a()");
         x.gone(5);
         due("30, the rest being behind a gate that is gone", tell(x, 0, "5{3{a()}}f(a())"), 30);
@@ -609,6 +631,8 @@ public final class ProgramEdges extends Edges {
         counted("[[!]!]", 2, 0, 0);
         counted("2{[!]}", 2, 0, 0);
         counted("5{[!]}!", 5, 0, 0);
+        counted("[!]2{[!]}", 3, 0, 0);
+        counted("[!][!]5{[!]3{[!]}}[!]", 23, 0, 0);
         counted("3{[a()!][!]}", 6, 0, 1);
         counted("5{5{5{5{5{[!]}}}}}", 3125, 0, 0);
         counted("2{[!]!}", 1, 0, 0);
@@ -630,6 +654,26 @@ public final class ProgramEdges extends Edges {
         GateTable x = with("a(b(c()))");
         x.gone(2);
         due("STAYS at once, the third gate being gone", x.alone(0, 5), 2);
+        promise(6, "of the PROGRAM told last, by GATES as they are");
+        String[] programs = {"a(a(a()))[!][!]", "b(b())[c()]", "", "[[!]!]!"};
+        int[][] want = {{2, 2, 3}, {0, 1, 2}, {0, 0, 0}, {2, 0, 0}};
+        GateTable y = new GateTable();
+        for (int k = 0; k < programs.length; k++) {
+            tell(y, 0, programs[k]);
+            for (int what = 3; what <= 5; what++) {
+                due("alone(0, " + what + ") of " + programs[k], y.alone(0, what), want[k][what - 3]);
+            }
+        }
+        tell(y, 0, programs[0]);
+        tell(y, 1, programs[1]);
+        tell(y, 3, programs[3]);
+        int[][] then = {{2, 2, 3}, {1, 1, 2}, {0, 0, 0}, {2, 0, 0}};
+        y.gone(2);
+        for (int t = 0; t < 4; t++) {
+            for (int what = 3; what <= 5; what++) {
+                due("alone(" + t + ", " + what + "), c being gone", y.alone(t, what), then[t][what - 3]);
+            }
+        }
     }
 
     // ---- promise 7

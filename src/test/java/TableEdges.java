@@ -20,6 +20,7 @@ public final class TableEdges extends Edges {
         goToTheEnd();
         laidOrNot();
         laidAnew();
+        laidAfterEachStep();
         gatesTold();
         tasksTold();
         counts();
@@ -266,7 +267,7 @@ public final class TableEdges extends Edges {
 
     private static void whatVictimsLose() {
         promise(9, "All that it ADDED since it began is taken back, it HOLDS nothing, is IDLE, has FALLEN once more");
-        GateTable x = with("a(b())", "c(c+5)f([f-9!]f+2)b(b(b-1a()))");
+        GateTable x = with("a(b())", "c(c+5)f([f-9!]f+2)b(b(b-1a()b+7)b+8)f(f+9)");
         x.rule(4);
         turns(x, 0, 1, 1, 1, 1, 1, 1, 1, 1, 1, 1, 1);
         due("steps of 1", x.task(1, 1), 11);
@@ -460,6 +461,21 @@ public final class TableEdges extends Edges {
         due("fallen", y.task(0, 5), 0);
         due("RULE stays", y.count(0), 3);
         due("the program stays", y.alone(0, 0), 4);
+    }
+
+    private static void laidAfterEachStep() {
+        promise(11, "what TASKS that are GOING have ADDED since they began is taken back, no more");
+        int[] cells = {0, 0, 4, 1, 1, 1, -2};
+        for (int done = 1; done <= 7; done++) {
+            GateTable x = with("", "", "a(a+4a-3b()a-3)");
+            x.run(2);
+            for (int k = 0; k < done; k++) {
+                due("turn(2), step " + k, x.turn(2), k < 6 ? 0 : 2);
+            }
+            due("the cell behind " + done + " steps", x.gate(0, 0), 1000000 - 2 + (done < 7 ? cells[done] : -2));
+            due("lay()", x.lay(), 1);
+            due("the cell then", x.gate(0, 0), 1000000 - 2 + (done < 7 ? 0 : -2));
+        }
     }
 
     // ---- promise 12
