@@ -274,6 +274,13 @@ public final class ProgramEdges extends Edges {
         due("the end behind an open bracket", tell(new GateTable(), 0, " [ "), -23);
         due("blanks inside of items", tell(new GateTable(), 0, " a ( a + 9 2 { a - 9 } ) "), 5);
         due("a figure behind a figure and a blank", tell(new GateTable(), 0, "a(a+1 2)"), -27);
+        for (String blanks : new String[] {"[a+1]", " [a+1]", "[a+1] ", " [ a + 1 ] "}) {
+            GateTable x = with(blanks);
+            due("why '" + blanks + "' is BROKEN", x.alone(0, 1), 0);
+            due("the gate", x.alone(0, 2), NONE);
+            due("MENDED", x.alone(0, 3), 1);
+            due("its turn", x.turn(0), 2);
+        }
         StringBuilder far = new StringBuilder();
         for (int k = 0; k < 59; k++) {
             far.append(' ');
