@@ -1,6 +1,7 @@
 /** 'What is refused changes nothing, but as told', of each refusal of each promise; nor does what only asks. */
 public final class RefusedEdges extends Edges {
     public static void main(String[] args) {
+        answersBelowZero();
         types();
         programs();
         gatesAndRuns();
@@ -86,6 +87,16 @@ public final class RefusedEdges extends Edges {
     }
 
     // ---- the calls
+
+    private static void answersBelowZero() {
+        promise(0, "BAD -1, NOT -2, FULL -3, NONE -4, NULL -11, CAST -12, INDEX -13, SIZE -14");
+        int[] told = {GateTable.BAD, GateTable.NOT, GateTable.FULL, GateTable.NONE,
+            GateTable.NULL, GateTable.CAST, GateTable.INDEX, GateTable.SIZE};
+        int[] want = {BAD, NOT, FULL, NONE, NULL, CAST, INDEX, SIZE};
+        for (int k = 0; k < want.length; k++) {
+            due("constant " + k, told[k], want[k]);
+        }
+    }
 
     private static void types() {
         promise(2, "What is refused changes nothing");
