@@ -516,8 +516,7 @@ public final class GateTable {
         }
 
         boolean closesAt(int k) {
-            char letter = letter(k);
-            return letter == ')' || letter == ']' || letter == '}';
+            return isCloser(letter(k));
         }
 
         /** The place of what closes the bracket that opens at a place. */
@@ -526,7 +525,7 @@ public final class GateTable {
             for (int k = opener; k < letters.length; k++) {
                 if (letters[k] == '(' || letters[k] == '[' || letters[k] == '{') {
                     open++;
-                } else if (closesAt(k)) {
+                } else if (isCloser(letters[k])) {
                     open--;
                 }
                 if (open == 0) {
@@ -534,6 +533,10 @@ public final class GateTable {
                 }
             }
             return letters.length;
+        }
+
+        private static boolean isCloser(char letter) {
+            return letter == ')' || letter == ']' || letter == '}';
         }
     }
 
@@ -643,7 +646,7 @@ public final class GateTable {
             }
             int figure = script.letter(at + 2) - '0';
             int amount = script.letter(at + 1) == '-' ? -figure : figure;
-            put(ADD, gate, amount);
+            note(ADD, gate, amount);
             if (tooLong || unsealedSize >= MOST_STEPS) {
                 return BROKE;
             }
@@ -696,7 +699,7 @@ public final class GateTable {
             insideNow |= bit(gate);
             staysNow++;
             mostStays = Math.max(mostStays, staysNow);
-            put(ENTER, gate, 0);
+            note(ENTER, gate, 0);
         }
 
         private void leave(int gate) {
@@ -705,18 +708,18 @@ public final class GateTable {
                 insideNow &= ~bit(gate);
             }
             staysNow--;
-            put(LEAVE, gate, 0);
+            note(LEAVE, gate, 0);
         }
 
         private void takeBack(int mark) {
             for (int k = unsealedSize - 1; k >= mark; k--) {
                 int place = unsealed[k];
-                put(ADD, gates[place], -adds[place]);
+                note(ADD, gates[place], -adds[place]);
             }
             unsealedSize = mark;
         }
 
-        private void put(int kind, int gate, int amount) {
+        private void note(int kind, int gate, int amount) {
             if (size >= MOST_STEPS) {
                 tooLong = true;
                 return;

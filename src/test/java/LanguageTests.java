@@ -4,7 +4,11 @@ import java.lang.reflect.Method;
 import java.lang.reflect.Modifier;
 import java.nio.file.Files;
 import java.nio.file.Path;
+import java.util.ArrayList;
+import java.util.List;
+import java.util.Map;
 import java.util.Set;
+import java.util.TreeMap;
 import java.util.TreeSet;
 import java.util.regex.Matcher;
 import java.util.regex.Pattern;
@@ -50,6 +54,7 @@ public final class LanguageTests {
     private static void face() {
         Set<String> open = new TreeSet<>();
         Set<String> hidden = new TreeSet<>();
+        Set<String> names = new TreeSet<>();
         for (Method m : GateTable.class.getDeclaredMethods()) {
             if (Modifier.isPrivate(m.getModifiers())) {
                 hidden.add(m.getName());
@@ -62,7 +67,9 @@ public final class LanguageTests {
         for (String one : FACE) {
             String name = one.substring(one.indexOf(' ') + 1, one.indexOf('('));
             due(!hidden.contains(name), "no private method bears the name " + name);
+            names.add(name);
         }
+        hiddenNames(names);
         Set<String> constants = new TreeSet<>();
         for (Field f : GateTable.class.getDeclaredFields()) {
             if (!Modifier.isPrivate(f.getModifiers())) {
@@ -123,19 +130,72 @@ public final class LanguageTests {
         while (library.find()) {
             due(allowed.contains(library.group()), "library: " + library.group());
         }
-        methodLengths(text);
+        Map<String, String> bodies = methods(code);
+        due(bodies.size() > 100, "methods are found: " + bodies.size());
+        callDepths(bodies);
     }
 
-    private static void methodLengths(String text) {
-        int start = -1;
-        String[] lines = text.split("\n");
+    /** The bodies of all methods and constructors by name; those of one name are put together. */
+    private static Map<String, String> methods(String code) {
+        Map<String, String> bodies = new TreeMap<>();
+        Pattern head = Pattern.compile("((?:    ){1,2})(?!if |for |while |switch |else)[A-Za-z][^=;]*?(\\w+)\\([^)]*\\) \\{\\s*");
+        String[] lines = code.split("\n");
         for (int k = 0; k < lines.length; k++) {
-            if (lines[k].matches("(    ){1,2}[A-Za-z].*\\(.*\\) \\{")) {
-                start = k;
+            Matcher m = head.matcher(lines[k]);
+            if (m.matches()) {
+                int start = k;
+                StringBuilder body = new StringBuilder();
+                while (k + 1 < lines.length && !lines[k + 1].startsWith(m.group(1) + "}")) {
+                    k++;
+                    body.append(lines[k]).append('\n');
+                }
+                due(k - start < 60, "a short method: " + m.group(2));
+                bodies.merge(m.group(2), body.toString(), String::concat);
             }
-            if (start >= 0 && lines[k].matches("(    ){1,2}\\}")) {
-                due(k - start < 60, "a short method: " + lines[start]);
-                start = -1;
+        }
+        return bodies;
+    }
+
+    private static void callDepths(Map<String, String> bodies) {
+        Map<String, Set<String>> calls = new TreeMap<>();
+        for (String name : bodies.keySet()) {
+            Set<String> called = new TreeSet<>();
+            Matcher m = Pattern.compile("\\b(\\w+)\\(").matcher(bodies.get(name));
+            while (m.find()) {
+                if (bodies.containsKey(m.group(1))) {
+                    called.add(m.group(1));
+                }
+            }
+            calls.put(name, called);
+        }
+        for (String one : FACE) {
+            String name = one.substring(one.indexOf(' ') + 1, one.indexOf('('));
+            List<String> chain = longestChain(name, calls, new ArrayList<>());
+            due(bodies.containsKey(name), "a body of " + name);
+            due(chain.size() <= 8, "calls go at most eight deep: " + chain);
+        }
+    }
+
+    /** The longest chain of calls that comes to no method again. */
+    private static List<String> longestChain(String name, Map<String, Set<String>> calls, List<String> open) {
+        List<String> longest = List.of();
+        open.add(name);
+        for (String called : calls.get(name)) {
+            if (!open.contains(called)) {
+                List<String> chain = longestChain(called, calls, open);
+                longest = chain.size() > longest.size() ? chain : longest;
+            }
+        }
+        open.remove(open.size() - 1);
+        List<String> whole = new ArrayList<>(longest);
+        whole.add(0, name);
+        return whole;
+    }
+
+    private static void hiddenNames(Set<String> faceNames) {
+        for (Class<?> c : GateTable.class.getDeclaredClasses()) {
+            for (Method m : c.getDeclaredMethods()) {
+                due(!faceNames.contains(m.getName()), "no method inside bears a public name: " + m);
             }
         }
     }
